@@ -649,7 +649,7 @@ public final class DarkLand {
         }
 
         int keptOf(int minute, int node, int what) {
-            return minute < 0 ? 0 : kept[keptAt(minute, node) + what];
+            return kept[keptAt(minute, node) + what];
         }
 
         private static int keptAt(int minute, int node) {
@@ -937,8 +937,11 @@ public final class DarkLand {
             int seen = minute - 1 - rooms.roomDelay[room];
             int[] names = texts.names;
             for (int what = 0; what < SEEN; what++) {
-                int was = nodes.keptOf(seen, rooms.roomNode[room], what);
-                names[Texts.FIRST_SEEN + what] = seen < 0 ? 0 : rooms.told(room, seen, what, was);
+                int at = Texts.FIRST_SEEN + what;
+                names[at] = 0;
+                if (seen >= 0) {
+                    names[at] = rooms.told(room, seen, what, nodes.keptOf(seen, rooms.roomNode[room], what));
+                }
             }
             names[Texts.MINUTE_NAME] = minute;
             names[Texts.FALLS_NAME] = falls;

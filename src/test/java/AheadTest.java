@@ -13,6 +13,9 @@ public final class AheadTest {
         chainsOfDeeds();
         gaps();
         plansWithOrders();
+        atMostFourDeeds();
+        choicesOnce();
+        warmingBeside();
         beside();
         besideChangesNothing();
         Due.end();
@@ -220,6 +223,53 @@ public final class AheadTest {
         x.deed(4, 1);
         Due.is("ahead of an order", x.plan(0, 1, 10), 10 * 4 + 10 * 2);
         planned(x, 0);
+    }
+
+    private static void atMostFourDeeds() {
+        DarkLand x = new DarkLand();
+        x.node(0);
+        x.plant(1, 0, 300, 40);
+        for (int l = 0; l < 5; l++) {
+            x.load(0, 3, l);
+        }
+        x.deed(2, 0);
+        x.run(1);
+        choices(x, 4, 0, 4, 1, 4, 2, 4, 3, 4, 4);
+        Due.is("plan", x.plan(0, 1, 20), 20 * 5 + 19 * 4 + 18 * 3 + 17 * 2);
+        planned(x, 4, 3, 2, 1);
+    }
+
+    /** An order undoes what is done ahead of the first minute, so that it would have to be done once more. */
+    private static void choicesOnce() {
+        DarkLand x = land();
+        x.room(0, 0);
+        Tape.read(x, "when 1;");
+        x.order(0, 1, 5, 0);
+        choices(x, 4, 0);
+        Due.is("a choice is made once", x.plan(0, 1, 10), 0);
+        planned(x, 0);
+        choices(x, 4, 0, 4, 0);
+        Due.is("another choice, of a like deed", x.plan(0, 1, 10), 9 * 2);
+        planned(x, 0, 1);
+    }
+
+    /** A plant that has warmed for 4 of 5 minutes is on just ahead of the STOP of the dam that warms it. */
+    private static void warmingBeside() {
+        DarkLand x = land();
+        x.plant(0, 0, 300, 40);
+        x.room(0, 0);
+        Tape.read(x, "when minute = 6;");
+        x.order(0, 1, 3, 0);
+        x.deed(4, 0);
+        x.deed(2, 1);
+        x.run(4);
+        Due.is("warmed", x.plantTold(1, 3), 4);
+        Due.is("lit beside", x.beside(5, 0), 1);
+        choices(x, 4, 1);
+        Due.is("plan", x.plan(0, 1, 10), 10 * 2 + 10 * 4);
+        x.run(5);
+        Due.is("the dam is off", x.plantTold(0, 1), 0);
+        Due.is("lit", x.loadTold(0, 1), 1);
     }
 
     private static void beside() {

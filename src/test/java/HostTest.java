@@ -7,6 +7,7 @@ public final class HostTest {
         sheets();
         cells();
         whatBytesAndShortsHold();
+        anewAllIsZero();
         copies();
         copiesWithinASheet();
         linesBySheets();
@@ -77,6 +78,18 @@ public final class HostTest {
             Due.is("all 0 anew, of sort " + sort, asLine(x, sort, sort, 0), 1);
         }
         Due.is("lines", x.count(2), 9);
+    }
+
+    private static void anewAllIsZero() {
+        for (int place = 0; place < 40; place++) {
+            DarkLand x = twoNodes();
+            x.sheet(0, 2, 40);
+            x.cell(0, place, 100);
+            x.sheet(0, 2, 40);
+            int line = place / 4 * 4;
+            x.cell(0, line + (place % 4 == 0 ? 1 : 0), 1);
+            Due.is("place " + place + " is 0 anew", asLine(x, 0, 2, line), 1);
+        }
     }
 
     private static DarkLand twoNodes() {

@@ -117,6 +117,9 @@ public final class TextsTest {
         isRead("when 1" + (char) 0 + ";", 6);
         isRead("when " + (char) 233 + ";", 5);
         isRead("when 1" + (char) 187 + ";", 6);
+        isRead("when (1" + (char) 233 + ";", 7);
+        isRead("when (1" + (char) 128 + ");", 7);
+        isRead("when 1" + (char) 127 + ";", 6);
         isRead("when 1" + (char) 255 + ";", 6);
         isRead("when 1 < 2 < 3;", 11);
         isRead("when 1 = 2 < 3;", 11);
