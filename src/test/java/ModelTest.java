@@ -8,6 +8,9 @@ public final class ModelTest {
         "when not not lit = 1 and (minute < 40 or 3 < swing);",
     };
 
+    /** An object is used for at most 512 calls: what a step, its looks and a plan ask, and texts that are fed, come on top. */
+    private static final int MOST_ASKED = 400;
+
     private final Random chance;
     private final DarkLand land = new DarkLand();
     private final Model model = new Model();
@@ -15,6 +18,7 @@ public final class ModelTest {
     /** A calm land has plants that follow fast and loads that are small, so that much of it gets lit and stays. */
     private final boolean calm;
     private int calls;
+    private int asked;
 
     private ModelTest(long seed) {
         chance = new Random(seed);
@@ -27,10 +31,10 @@ public final class ModelTest {
         int plans = 0;
         int orders = 0;
         int[] whys = new int[4];
-        for (long seed = 1; seed <= 400; seed++) {
+        for (long seed = 1; seed <= 800; seed++) {
             ModelTest t = new ModelTest(seed);
             t.build();
-            for (int i = 0; i < 90 && t.model.minute < 600; i++) {
+            for (int i = 0; i < 90 && t.model.minute < 600 && t.asked < MOST_ASKED; i++) {
                 t.step();
                 t.compare();
             }
@@ -93,7 +97,7 @@ public final class ModelTest {
         for (long seed = 1001; seed <= 1150; seed++) {
             ModelTest t = new ModelTest(seed);
             t.build();
-            for (int i = 0; i < 12 && t.model.minute < 60; i++) {
+            for (int i = 0; i < 12 && t.model.minute < 60 && t.asked < MOST_ASKED; i++) {
                 t.step();
             }
             if (t.foundAPlan()) {
@@ -110,6 +114,7 @@ public final class ModelTest {
     }
 
     private void is(String call, long got, long due) {
+        asked++;
         Due.is(name + "minute " + model.minute + ": " + call, got, due);
     }
 

@@ -16,10 +16,10 @@ public final class RefusalsTest {
     }
 
     public static void main(String[] args) {
-        for (long seed = 0; seed < 1500; seed++) {
+        for (long seed = 0; seed < 4000; seed++) {
             RefusalsTest t = new RefusalsTest(seed);
             t.build();
-            for (int i = 0; i < 400; i++) {
+            for (int i = 0; i < 200; i++) {
                 t.anyCall();
             }
             t.isLike(seed);
@@ -107,33 +107,37 @@ public final class RefusalsTest {
         }
     }
 
+    /** Looks at a part of all, by chance: an object is used for at most 512 calls. */
     private void isLike(long seed) {
         String in = "seed " + seed + ", ";
         for (int what = 0; what < 12; what++) {
             Due.is(in + "count", x.count(what), other.count(what));
         }
-        for (int i = 0; i < 20; i++) {
+        for (int k = 0; k < 6; k++) {
+            int i = chance.nextInt(k < 3 ? 5 : 20);
             Due.is(in + "lineTold", x.lineTold(i), other.lineTold(i));
             Due.is(in + "ordered", x.ordered(i), other.ordered(i));
             for (int what = 0; what < 6; what++) {
                 Due.is(in + "nodeTold", x.nodeTold(i, what), other.nodeTold(i, what));
                 Due.is(in + "plantTold", x.plantTold(i, what), other.plantTold(i, what));
                 Due.is(in + "loadTold", x.loadTold(i, what), other.loadTold(i, what));
-                Due.is(in + "crewTold", x.crewTold(i, what), other.crewTold(i, what));
-                Due.is(in + "fall", x.fall(i, what), other.fall(i, what));
-                Due.is(in + "when", x.when(i, what), other.when(i, what));
+                Due.is(in + "when", x.when(k % 4, what), other.when(k % 4, what));
             }
-            for (int m = 0; m < 40; m++) {
-                Due.is(in + "sees", x.sees(i % 4, x.count(0) - m, i / 4, 0), other.sees(i % 4, x.count(0) - m, i / 4, 0));
+            for (int what = 0; what < 3; what++) {
+                Due.is(in + "crewTold", x.crewTold(i % 4, what), other.crewTold(i % 4, what));
+                Due.is(in + "fall", x.fall(i, what), other.fall(i, what));
+            }
+            int minute = x.count(0) - 1 - chance.nextInt(32);
+            for (int what = 0; what < 4; what++) {
+                Due.is(in + "sees", x.sees(k % 4, minute, what, k % 2), other.sees(k % 4, minute, what, k % 2));
             }
         }
         for (int s = 0; s < 4; s++) {
             Due.is(in + "plan", x.plan(s, 1, 10), other.plan(s, 1, 10));
             Due.is(in + "planned", x.planned(-1), other.planned(-1));
             for (int sort = 0; sort < 3; sort++) {
-                for (int from = 0; from < 40; from++) {
-                    Due.is(in + "lines", x.lines(s, sort, from, 1), other.lines(s, sort, from, 1));
-                }
+                int from = chance.nextInt(40);
+                Due.is(in + "lines", x.lines(s, sort, from, 1), other.lines(s, sort, from, 1));
             }
         }
     }
