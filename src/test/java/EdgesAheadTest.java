@@ -38,6 +38,15 @@ public final class EdgesAheadTest {
         besideBeyondTheEnd();
         besideChangesNothing();
         besideGoesOn();
+        besideOfIslandsAsTheyAre();
+        besideOfSwingAsItIs();
+        besideOfPlantsAsTheyWarmed();
+        besideOfPlantsAsTheyFell();
+        besideOfLoadsAsTheyWereDark();
+        besideOfWhatIsKept();
+        besideOfCrewsWhereTheyAre();
+        besideOfOrdersThatAreDone();
+        besideBehindOthers();
         besideOfLoads();
         besideOfFalls();
         besideOfWorth();
@@ -523,6 +532,195 @@ public final class EdgesAheadTest {
         }
         x.run(6);
         Due.is("then it is so", x.loadTold(0, 3), 1);
+    }
+
+    /** How many FALLS come in one minute, by beside and by a plan of a DEED that does nothing to it. */
+    private static void fallsNext(String as, DarkLand x, int falls) {
+        Due.is("FALLS beside, as " + as, x.beside(1, 1), falls);
+        int l = x.load(x.node(0), 1, 0);
+        Twins.sheet(x, 3, 2, LIGHT, l);
+        Due.is("a plan, as " + as, x.plan(3, 1, 4), falls > 0 ? -1 : x.beside(4, 2));
+        x.run(1);
+        Due.is("FALLS, as " + as, x.count(10), falls);
+    }
+
+    /** "what would be": of the land as it is; what is closed hangs together. */
+    private static void besideOfIslandsAsTheyAre() {
+        DarkLand x = land(1, 1);
+        x.deed(CLOSE, 0);
+        int l = x.load(1, 100, 0);
+        x.deed(LIGHT, l);
+        fallsNext("a load hangs by a line", x, 1);
+    }
+
+    /** The same of SWING: a minute more of what lacks is too much; and of how long a load is lit, and that it is cold. */
+    private static void besideOfSwingAsItIs() {
+        DarkLand x = new DarkLand();
+        x.node(0);
+        x.plant(1, 0, 30, 10);
+        x.load(0, 27, 0);
+        x.deed(START, 0);
+        x.run(1);
+        x.deed(LIGHT, 0);
+        x.run(1);
+        // 54 drawn, 30 put out: -24, less a fourth; then 51: -39, less a fourth
+        Due.is("SWING", x.nodeTold(0, 2), -18);
+        fallsNext("it swings, and is cold", x, 1);
+    }
+
+    /** A plant that comes on beside in its fifth minute helps the small dam out. */
+    private static DarkLand warmed(int kind, int from) {
+        DarkLand x = new DarkLand();
+        x.node(0);
+        x.plant(1, 0, 5, 1);
+        x.plant(kind, 0, 19, 9);
+        x.load(0, 4, 0);
+        x.deed(START, 0);
+        x.run(1);
+        if (from > 1) {
+            x.run(from - 1);
+            x.deed(START, 1);
+            x.deed(STOP, 1);
+        }
+        x.deed(START, 1);
+        x.run(4);
+        Due.is("WARMED", x.plantTold(1, 3), 4);
+        x.deed(LIGHT, 0);
+        return x;
+    }
+
+    private static void besideOfPlantsAsTheyWarmed() {
+        fallsNext("it has warmed for 4", warmed(0, 1), 0);
+        DarkLand x = warmed(0, 1);
+        x.deed(STOP, 1);
+        x.deed(START, 1);
+        fallsNext("it has to warm anew", x, 1);
+    }
+
+    private static void besideOfPlantsAsTheyFell() {
+        fallsNext("it fell but 4 minutes ago", warmed(2, 90), 0);
+        DarkLand x = warmed(2, 1);
+        fallsNext("it never fell", x, 0);
+    }
+
+    private static void besideOfLoadsAsTheyWereDark() {
+        for (int dark = 29; dark <= 30; dark++) {
+            DarkLand x = new DarkLand();
+            x.node(0);
+            x.plant(1, 0, 400, 10);
+            int[] draws = {15, 15, 29};
+            for (int l = 0; l < 3; l++) {
+                x.load(0, draws[l], 0);
+            }
+            x.deed(START, 0);
+            x.run(1);
+            for (int l = 0; l < 2; l++) {
+                x.deed(LIGHT, l);
+                x.run(11);
+            }
+            x.deed(DIM, 0);
+            x.run(1);
+            x.deed(DIM, 1);
+            x.run(1);
+            x.deed(LIGHT, 0);
+            x.deed(LIGHT, 1);
+            x.run(1);
+            x.deed(DIM, 0);
+            x.deed(DIM, 1);
+            x.run(dark);
+            Due.is("level", x.nodeTold(0, 2), 0);
+            x.deed(LIGHT, 0);
+            x.deed(LIGHT, 1);
+            // 30, or 60 as both come back cold: the dam follows by 30
+            fallsNext("dark for " + dark, x, dark == 30 ? 1 : 0);
+        }
+    }
+
+    private static void besideOfWhatIsKept() {
+        for (int late : new int[] {0, 2, 9, 30}) {
+            for (int at : new int[] {31, 40, 64, 75}) {
+                DarkLand x = land(1, 1);
+                x.room(0, late);
+                x.run(at - 2);
+                // held is as the minute and 1
+                Tape.read(x, "when held = " + (at - late) + ";");
+                x.order(0, 1, LIGHT, 0);
+                x.run(1);
+                Due.is("count(0)", x.count(0), at);
+                Due.is("beside, " + late + " late at " + at, x.beside(1, 0), 1);
+                x.deed(STOP, 0);
+                x.deed(START, 0);
+                Due.is("beside, " + late + " late at " + at, x.beside(1, 0), 1);
+                x.falseSign(0, at - 1 - late, 3, 999);
+                Due.is("beside a false sign", x.beside(1, 0), 0);
+                x.mend(0);
+                x.run(1);
+                Due.is("done", x.ordered(0), 1);
+            }
+        }
+    }
+
+    private static void besideOfCrewsWhereTheyAre() {
+        DarkLand x = land(1, 1);
+        x.node(12);
+        x.line(1, 2, 0, 1);
+        x.load(2, 1, 0);
+        x.deed(CLOSE, 0);
+        x.deed(LIGHT, 1);
+        x.room(0, 0);
+        Tape.read(x, "when 1;");
+        x.order(0, 1, CLOSE, 1);
+        x.crew(0);
+        Due.is("none there", x.beside(100, 0), 0);
+        x.go(0, 1);
+        // 10 minutes on its way, that begin with this one: there in the tenth
+        for (int n = 9; n <= 10; n++) {
+            Due.is("beside " + n, x.beside(n, 0), n == 10 ? 1 : 0);
+        }
+        x.run(6);
+        Due.is("a minute short", x.beside(3, 0), 0);
+        Due.is("there", x.beside(4, 0), 1);
+        DarkLand y = land(1, 1);
+        y.node(12);
+        y.line(1, 2, 0, 1);
+        y.load(2, 1, 0);
+        y.deed(CLOSE, 0);
+        y.deed(LIGHT, 1);
+        y.room(0, 0);
+        y.crew(0);
+        y.go(0, 1);
+        y.run(10);
+        Tape.read(y, "when 1;");
+        y.order(0, 1, CLOSE, 1);
+        Due.is("a crew that went there", y.beside(1, 0), 1);
+    }
+
+    private static void besideOfOrdersThatAreDone() {
+        DarkLand x = land(1, 1);
+        x.room(0, 0);
+        Tape.read(x, "when 1;");
+        x.order(0, 1, LIGHT, 0);
+        x.run(1);
+        x.deed(DIM, 0);
+        Due.is("it isn't done again", x.beside(5, 0), 0);
+        x.order(0, 1, LIGHT, 0);
+        Due.is("another is", x.beside(5, 0), 1);
+        Due.is("and is not done by that", x.ordered(1), 0);
+    }
+
+    /** What was played beside is nothing to what is played beside next. */
+    private static void besideBehindOthers() {
+        DarkLand x = land(1, 1, 2);
+        x.deed(LIGHT, 0);
+        long[] due = {1, 0, 6};
+        for (int i = 0; i < 3; i++) {
+            for (int what = 0; what < 3; what++) {
+                Due.is("beside(3, " + what + ")", x.beside(3, what), due[what]);
+                x.beside(50 + i, what);
+                choices(x, STOP, 0, LIGHT, 1);
+                Due.is("plan", x.plan(0, 1, 10), 20 + 30);
+            }
+        }
     }
 
     /** "0 how many LOADS are lit then": in the last of the minutes, not now and not between. */

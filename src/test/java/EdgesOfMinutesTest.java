@@ -23,6 +23,7 @@ public final class EdgesOfMinutesTest {
         coldIsDarkForThirty();
         coldAtFirst();
         drawIsCut();
+        drawOfHundreds();
         outByRampAtMost();
         outByNumbers();
         outDownToZero();
@@ -45,6 +46,7 @@ public final class EdgesOfMinutesTest {
         heldOfTheLit();
         nothingOfTheDark();
         keptForThirtyOne();
+        aLandThatIsFull();
         Due.end();
     }
 
@@ -380,6 +382,20 @@ public final class EdgesOfMinutesTest {
         Due.is("two minutes on", x.plantTold(0, 2), 20 + 4 * 180 / 100);
         x.run(1);
         Due.is("what is ON has no NEED, and puts out too", x.plantTold(0, 2) + x.plantTold(1, 2), 4 * 170 / 100);
+        for (int dam = 0; dam < 8; dam++) {
+            DarkLand y = new DarkLand();
+            y.node(0);
+            for (int p = 0; p < 8; p++) {
+                y.plant(p == dam ? 1 : 0, 0, 40, 99);
+            }
+            y.deed(START, dam);
+            y.run(1);
+            for (int p = 0; p < 8; p++) {
+                y.deed(START, p);
+            }
+            y.run(1);
+            Due.is("seven NEEDS of 3", y.plantTold(dam, 2), 21);
+        }
     }
 
     /** "200 less 10 for each minute for which it has been lit, 100 at least" */
@@ -471,6 +487,28 @@ public final class EdgesOfMinutesTest {
                 x.run(1);
                 Due.is("OUT of " + of[0], x.plantTold(0, 2), of[m]);
             }
+        }
+    }
+
+    /** The same of a draw of hundreds, that eight pumped follow; behind 10 minutes it is as it is told. */
+    private static void drawOfHundreds() {
+        DarkLand x = new DarkLand();
+        x.node(0);
+        for (int p = 0; p < 8; p++) {
+            x.plant(3, 0, 999, 99);
+            x.deed(START, p);
+        }
+        x.run(1);
+        load(x, 0, 199);
+        int[] due = {398, 378, 358, 338, 318, 298, 278, 258, 238, 218, 199, 199, 199, 199};
+        for (int m = 0; m < due.length; m++) {
+            Due.is("what it would draw behind " + m, x.loadTold(0, 2), due[m]);
+            x.run(1);
+            int out = 0;
+            for (int p = 0; p < 8; p++) {
+                out += x.plantTold(p, 2);
+            }
+            Due.is("all OUT behind " + m, out, due[m]);
         }
     }
 
@@ -1013,6 +1051,89 @@ public final class EdgesOfMinutesTest {
                 Due.is("LIT of " + minute + " at " + at, x.sees(0, minute, 0, 1), kept ? 1 : DarkLand.NO);
                 Due.is("HELD of " + minute + " at " + at, x.sees(0, minute, 3, 1), kept ? minute + 1 : DarkLand.NO);
             }
+        }
+    }
+
+    /** 14 NODES in a row, 20 LINES, 8 PLANTS, 12 LOADS, 4 CREWS, 4 ROOMS, 20 signs, 6 TEXTS, 16 ORDERS, all in use. */
+    private static void aLandThatIsFull() {
+        DarkLand x = new DarkLand();
+        for (int n = 0; n < 14; n++) {
+            Due.is("node", x.node(n), n);
+        }
+        for (int l = 0; l < 20; l++) {
+            Due.is("line", l < 13 ? x.line(l, l + 1, 10, 0) : x.line(13, l - 13, 20, 1), l);
+        }
+        for (int p = 0; p < 8; p++) {
+            Due.is("plant", x.plant(3, 13 - p, 999, 99), p);
+            x.deed(START, p);
+        }
+        for (int l = 0; l < 12; l++) {
+            Due.is("load", x.load(l + 2, 9, l % 10), l);
+        }
+        for (int i = 0; i < 4; i++) {
+            Due.is("crew", x.crew(12), i);
+            Due.is("room", x.room(13 - i, 10 * i), i);
+        }
+        for (int f = 0; f < 20; f++) {
+            Due.is("sign", x.falseSign(f % 4, 200 + f, 3, f), f);
+        }
+        for (int i = 1; i < 6; i++) {
+            Due.is("text", Tape.read(x, "when minute = " + 10 * i + ";"), i);
+        }
+        for (int k = 0; k < 16; k++) {
+            Due.is("order", x.order(k % 4, k < 12 ? 1 : 2 + k % 4, k < 12 ? LIGHT : DIM, k < 12 ? k : k - 12), k);
+        }
+        x.run(1);
+        for (int c = 0; c < 4; c++) {
+            Due.is("go", x.go(c, 13), 1);
+        }
+        x.run(1);
+        for (int l = 19; l >= 0; l--) {
+            Due.is("CLOSE", x.deed(CLOSE, l), 1);
+        }
+        for (int n = 0; n < 14; n++) {
+            Due.is("ISLAND", x.nodeTold(n, 1), 0);
+            Due.is("LIT", x.nodeTold(n, 0), 1);
+        }
+        x.run(9);
+        for (int l = 0; l < 12; l++) {
+            Due.is("SERVED from minute 10 on", x.loadTold(l, 3), 1);
+        }
+        // 12 loads of 18 drawn, that the first five follow
+        for (int p = 0; p < 8; p++) {
+            Due.is("OUT", x.plantTold(p, 2), p < 4 ? 50 : p == 4 ? 16 : 0);
+        }
+        for (int n = 0; n < 14; n++) {
+            Due.is("SWING", x.nodeTold(n, 2), 0);
+            Due.is("VOLTS", x.nodeTold(n, 3), 130 + 140 - 21 - 8 * 30);
+            Due.is("SPARE", x.nodeTold(n, 4), 8 * 999 - 216);
+            Due.is("HELD", x.nodeTold(n, 5), n > 5 ? 11 : 9);
+        }
+        x.run(60);
+        for (int k = 0; k < 16; k++) {
+            Due.is("ordered", x.ordered(k), 1);
+        }
+        for (int room = 0; room < 4; room++) {
+            for (int minute = 40; minute < 71; minute++) {
+                Due.is("HELD of " + minute, x.sees(room, minute, 3, 1), minute + 1);
+            }
+            Due.is("when", x.when(room, 0), 1);
+        }
+        Due.is("beside", x.beside(100, 0), 8);
+        Due.is("no FALL", x.count(10), 0);
+        x.deed(STOP, 6);
+        x.deed(STOP, 7);
+        x.run(1);
+        // 72 drawn, and SOAK but of six
+        int[] fall = {71, 0, 3};
+        for (int what = 0; what < 3; what++) {
+            Due.is("the FALL of all", x.fall(0, what), fall[what]);
+        }
+        for (int l = 0; l < 20; l++) {
+            Due.is("open: " + l, x.lineTold(l), 0);
+        }
+        for (int p = 0; p < 8; p++) {
+            Due.is("OFF: " + p, x.plantTold(p, 1), 0);
         }
     }
 }

@@ -10,7 +10,7 @@ public final class EdgesOfRoomsTest {
     private static final int CLOSE = 0, OPEN = 1, START = 2, STOP = 3, LIGHT = 4, DIM = 5;
     private static final Consumer<DarkLand> FULL_OF_SIGNS = x -> {
         for (int f = 2; f < 20; f++) {
-            x.falseSign(0, 600, f % 4, f);
+            x.falseSign(0, 3, f % 4, f);
         }
     };
     private static final Consumer<DarkLand> FULL_OF_ORDERS = x -> {
@@ -35,6 +35,7 @@ public final class EdgesOfRoomsTest {
         seesThirtyOneMinutes();
         seesAsToldAndAsItWas();
         seesItsNode();
+        seesTheLastNodeInEachMinute();
         orderRefusesRoomAndText();
         orderRefusesDeed();
         orderRefusesOfWhat();
@@ -274,6 +275,25 @@ public final class EdgesOfRoomsTest {
             Due.is("node 1 in minute 0", x.sees(1, 0, what, 1), 0);
             Due.is("node 2 in minute 1", x.sees(2, 1, what, 1), 0);
             Due.is("node 0 in minute 1", x.sees(0, 1, what, 1), what == 3 ? 2 : due[what]);
+        }
+    }
+
+    /** The last of 14 NODES, in each of so many minutes that all that is kept is kept anew. */
+    private static void seesTheLastNodeInEachMinute() {
+        DarkLand x = new DarkLand();
+        for (int n = 0; n < 14; n++) {
+            x.node(0);
+        }
+        x.plant(1, 13, 100, 10);
+        x.room(13, 0);
+        x.room(0, 0);
+        Tape.read(x, "when held;");
+        x.deed(START, 0);
+        for (int t = 1; t < 80; t++) {
+            x.run(1);
+            Due.is("when at " + t, x.when(0, 1), t);
+            Due.is("HELD of the minute before " + t, x.sees(0, t - 1, 3, 0), t);
+            Due.is("HELD of the first node", x.sees(1, t - 1, 3, 0), 0);
         }
     }
 

@@ -44,6 +44,7 @@ public final class EdgesOfTextsTest {
         truths();
         valuesWrap();
         valuesByOrder();
+        theDeepestTexts();
         names();
         countsOfNone();
         counts();
@@ -578,6 +579,14 @@ public final class EdgesOfTextsTest {
         is("1 + 1 < 1 + 2", 1);
         is("2 = (1 < 2)", 0);
         is("5 - 2 < 4 - 2 or 5 - 2 = 1 + 2", 1);
+    }
+
+    /** With 5 open, and in each of them one of all that can wait for what is within. */
+    private static void theDeepestTexts() {
+        is("1-2*(1-2*(1-2*(1-2*(1-2*(3)))))", -85);
+        is("0or 1and 2<3+4*(".repeat(5) + "0or 1and 2<3+4*5" + ")))))", 1);
+        is("0or 1and 9=3+6*(".repeat(5) + "0or 0and 2<3+4*5" + ")))))", 0);
+        is("not(-(not 2<1))", 0);
     }
 
     /** "NAMES: minute lit swing volts held falls" */

@@ -12,7 +12,7 @@ public final class EdgesOfThingsTest {
     private static final Consumer<DarkLand> FULL_OF_PLANTS = x -> fill(5, () -> x.plant(5, 2, 9, 9));
     private static final Consumer<DarkLand> FULL_OF_LOADS = x -> fill(9, () -> x.load(2, 9, 9));
     private static final Consumer<DarkLand> FULL_OF_CREWS = x -> fill(2, () -> x.crew(3));
-    private static final Consumer<DarkLand> FULL_OF_ROOMS = x -> fill(2, () -> x.room(3, 3));
+    private static final Consumer<DarkLand> FULL_OF_ROOMS = x -> fill(2, () -> x.room(0, 3));
 
     public static void main(String[] args) {
         aNewObject();

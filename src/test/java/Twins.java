@@ -89,31 +89,24 @@ final class Twins {
         }
     }
 
-    /** All that can be looked at, then what a plan, the tape and the sheets hold, then what comes of it. */
+    /** All that can be looked at, then what comes of it, then what a plan, the tape, the sheets, the x of nodes hold. */
     private static String look(DarkLand x) {
         StringBuilder to = new StringBuilder();
         things(x, to);
+        lastOnes(x, to);
         rooms(x, to);
-        told(to, "planned(-1)", x.planned(-1));
-        for (int i = 0; i < 2; i++) {
-            told(to, "planned(" + i + ")", x.planned(i));
+        ahead(x, to);
+        told(to, "run(2)", x.run(2));
+        for (int n = 0; n < 4; n++) {
+            told(to, "nodeTold(" + n + ",2),then", x.nodeTold(n, 2));
+            told(to, "nodeTold(" + n + ",3),then", x.nodeTold(n, 3));
+            told(to, "nodeTold(" + n + ",4),then", x.nodeTold(n, 4));
         }
-        for (int what = 0; what < 3; what++) {
-            told(to, "beside(6," + what + ")", x.beside(6, what));
-        }
-        told(to, "plan(0,2,9)", x.plan(0, 2, 9));
-        told(to, "planned(-1),anew", x.planned(-1));
-        told(to, "feed", x.feed(';', 1));
-        told(to, "text", x.text());
-        told(to, "when(0,2)", x.when(0, 2));
-        told(to, "cell(2,0,0)", x.cell(2, 0, 0));
-        told(to, "cell(3,0,0)", x.cell(3, 0, 0));
-        told(to, "lines(1,1,0,2)", x.lines(1, 1, 0, 2));
-        int lines = x.count(2);
-        told(to, "deed(0,last)", x.deed(0, lines - 2));
-        told(to, "deed(0,last)", x.deed(0, lines - 1));
-        told(to, "run(6)", x.run(6));
+        tape(x, to);
+        lines(x, to);
+        told(to, "run(4)", x.run(4));
         things(x, to);
+        places(x, to);
         return to.toString();
     }
 
@@ -147,18 +140,71 @@ final class Twins {
         }
     }
 
+    /** Of each sort the last, as more were told than those that things() looks at. */
+    private static void lastOnes(DarkLand x, StringBuilder to) {
+        int load = x.count(4) - 1;
+        told(to, "lastNode", x.nodeTold(x.count(1) - 1, 1));
+        told(to, "lastLine", x.may(x.count(2) - 1));
+        told(to, "lastPlant", x.plantTold(x.count(3) - 1, 0));
+        told(to, "lastPlantsMost", x.taken(x.count(3) - 1, 0));
+        told(to, "lastLoad", x.loadTold(load, 2));
+        told(to, "lastLoadsRank", x.loadTold(load, 5));
+        told(to, "lastCrew", x.crewTold(x.count(5) - 1, 0));
+        told(to, "lastRoom", x.when(x.count(6) - 1, 1));
+        told(to, "lastText", x.when(1, x.count(8) - 1));
+        told(to, "lastOrder", x.ordered(x.count(7) - 1));
+    }
+
     private static void rooms(DarkLand x, StringBuilder to) {
-        for (int minute = 2; minute < 4; minute++) {
+        for (int minute = 0; minute < 4; minute++) {
             for (int what = 0; what < 4; what++) {
-                for (int as = 0; as < 2; as++) {
-                    told(to, "sees(0," + minute + "," + what + "," + as + ")", x.sees(0, minute, what, as));
-                    told(to, "sees(1," + minute + "," + what + "," + as + ")", x.sees(1, minute, what, as));
-                }
+                told(to, "sees(0," + minute + "," + what + ",0)", x.sees(0, minute, what, 0));
+                told(to, "sees(1," + minute + "," + what + ",0)", x.sees(1, minute, what, 0));
+                told(to, "sees(0," + minute + "," + what + ",1)", x.sees(0, minute, what, 1));
             }
         }
         for (int room = 0; room < 2; room++) {
             told(to, "when(" + room + ",0)", x.when(room, 0));
             told(to, "when(" + room + ",1)", x.when(room, 1));
         }
+    }
+
+    private static void ahead(DarkLand x, StringBuilder to) {
+        for (int i = -1; i < 2; i++) {
+            told(to, "planned(" + i + ")", x.planned(i));
+        }
+        for (int what = 0; what < 3; what++) {
+            told(to, "beside(6," + what + ")", x.beside(6, what));
+        }
+        told(to, "plan(0,2,9)", x.plan(0, 2, 9));
+        told(to, "planned(-1),anew", x.planned(-1));
+    }
+
+    private static void tape(DarkLand x, StringBuilder to) {
+        told(to, "feed", x.feed(';', 1));
+        told(to, "text", x.text());
+        told(to, "when(0,2)", x.when(0, 2));
+    }
+
+    /** Load 2 is dimmed first, as a line to it would make the island fall. */
+    private static void lines(DarkLand x, StringBuilder to) {
+        told(to, "cell(2,0,0)", x.cell(2, 0, 0));
+        told(to, "cell(3,0,0)", x.cell(3, 0, 0));
+        told(to, "deed(5,2)", x.deed(5, 2));
+        if (x.count(2) < 20) {
+            told(to, "lines(1,1,0,2)", x.lines(1, 1, 0, 2));
+        }
+        int lines = x.count(2);
+        told(to, "deed(0,last)", x.deed(0, lines - 1));
+        told(to, "deed(0,lastButOne)", x.deed(0, lines - 2));
+    }
+
+    /** How far it is to NODE 0 from where crew 0 is not, and to the last. */
+    private static void places(DarkLand x, StringBuilder to) {
+        told(to, "go(0,last)", x.go(0, x.count(1) - 1));
+        told(to, "crew(1)", x.crew(1));
+        told(to, "go(2,0)", x.go(2, 0));
+        told(to, "crew(3)", x.crew(3));
+        told(to, "go(3,2)", x.go(3, 2));
     }
 }
