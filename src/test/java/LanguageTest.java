@@ -38,6 +38,13 @@ public final class LanguageTest {
             count++;
         }
         Due.holds("some twelve classes", count <= 12);
+        Due.holds("signs of 1 to 127 alone", source.chars().allMatch(c -> 1 <= c && c <= 127));
+        libraryIsListed(code);
+        methodsAreShort(code);
+        classesAreSmall(DarkLand.class);
+        for (Class<?> inside : DarkLand.class.getDeclaredClasses()) {
+            classesAreSmall(inside);
+        }
         for (java.lang.reflect.Method m : DarkLand.class.getDeclaredMethods()) {
             boolean seen = (m.getModifiers() & (java.lang.reflect.Modifier.PUBLIC | java.lang.reflect.Modifier.PRIVATE)) != 0;
             Due.holds(m.getName() + " is public or private", seen);
@@ -47,5 +54,45 @@ public final class LanguageTest {
             Due.holds(f.getName() + " is public or private", seen);
         }
         Due.end();
+    }
+
+    /** Rule 4: of the library's classes only these stand in the program, with these of their functions. */
+    private static void libraryIsListed(String code) {
+        Matcher call = Pattern.compile("\\b(Math|Integer|Long|Arrays|List|System|String|Object|Character)\\s*\\.\\s*(\\w+)").matcher(code);
+        while (call.find()) {
+            String called = call.group(1) + "." + call.group(2);
+            Due.holds(called + " is listed", called.matches("Math\\.(min|max|abs)|System\\.arraycopy"));
+        }
+    }
+
+    /** Rule 11: "some sixty lines"; in this program's form a method ends with the brace that stands as far in as its head. */
+    private static void methodsAreShort(String code) {
+        String head = "";
+        String in = null;
+        int size = 0;
+        for (String line : code.split("\n")) {
+            if (in == null && line.matches(" {4,8}[\\w\\[\\] ]+\\([\\w\\[\\], ]*\\) \\{")) {
+                head = line.trim();
+                in = line.substring(0, line.length() - line.stripLeading().length());
+                size = 0;
+            }
+            size++;
+            if (in != null && line.equals(in + "}")) {
+                Due.holds(head + " is short: " + size, size <= 60);
+                in = null;
+            }
+        }
+    }
+
+    /** Rule 11: at most seven parameters, some twenty fields beside constants. */
+    private static void classesAreSmall(Class<?> c) {
+        int fields = 0;
+        for (java.lang.reflect.Field f : c.getDeclaredFields()) {
+            fields += java.lang.reflect.Modifier.isStatic(f.getModifiers()) ? 0 : 1;
+        }
+        Due.holds(c.getName() + " has few fields: " + fields, fields <= 20);
+        for (java.lang.reflect.Method m : c.getDeclaredMethods()) {
+            Due.holds(m.getName() + " has few parameters", m.getParameterCount() <= 7);
+        }
     }
 }
